@@ -1,3 +1,4 @@
+import java.util.Arrays;
 import java.util.List;
 
 /** Many tables of all sizes, each answer held against the Reference. */
@@ -24,6 +25,7 @@ public final class ReferenceTest {
             }
         }
         compareFullest();
+        compareManySlices();
         Check.end("ReferenceTest");
     }
 
@@ -45,15 +47,25 @@ public final class ReferenceTest {
     private static void compareFullest() {
         int[][] times = new int[5][5];
         for (int[] row : times) {
-            java.util.Arrays.fill(row, 99);
+            Arrays.fill(row, 99);
         }
         for (int divisor : DIVISORS) {
             compare(Shops.of(times), times, divisor);
         }
     }
 
+    /** A table with more slices than any other that was found in a long search. */
+    private static void compareManySlices() {
+        int[][] times = {
+            {85, 3, 3, 67, 88}, {56, 40, 24, 16, 84}, {22, 37, 72, 58, 98}, {83, 14, 22, 26, 15},
+            {50, 24, 37, 61, 22},
+        };
+        Check.same("slices() of the table with many", Shops.of(times).slices(), 38);
+        compare(Shops.of(times), times, 7);
+    }
+
     private static void compare(OpenShop shop, int[][] times, int divisor) {
-        String of = java.util.Arrays.deepToString(times) + " ";
+        String of = Arrays.deepToString(times) + " ";
         compareSums(of, shop, times);
         comparePlan(of, shop, times, Reference.slices(times));
         compareDispatch(of, shop, times);

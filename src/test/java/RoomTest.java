@@ -27,7 +27,7 @@ public final class RoomTest {
     }
 
     private static long made() {
-        return THREADS.getThreadAllocatedBytes(Thread.currentThread().getId());
+        return THREADS.getCurrentThreadAllocatedBytes();
     }
 
     private static long askAll(OpenShop shop, int round) {

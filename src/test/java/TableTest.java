@@ -118,6 +118,10 @@ public final class TableTest {
             Check.noIndex("swapJobs(" + wrong + ", itself)", () -> shop.swapJobs(wrong, wrong));
         }
         Shops.sameTable("after refused swapJobs", shop, due);
+        OpenShop wide = Shops.of(new int[][] {{1, 2, 3, 4, 5}, {6, 7, 8, 9, 10}});
+        Check.same("swapJobs(1, 0)", wide.swapJobs(1, 0), 15);
+        Shops.sameTable("after swapJobs(1, 0)", wide,
+                new int[][] {{6, 7, 8, 9, 10}, {1, 2, 3, 4, 5}});
     }
 
     private static void promise6Transpose() {
