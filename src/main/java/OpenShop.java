@@ -288,8 +288,8 @@ public final class OpenShop {
         private final int[] cells;
 
         Grid(int rows, int columns) {
-            this.columns = Math.max(columns, 0);
-            cells = new int[Math.max(rows, 0) * this.columns];
+            this.columns = columns;
+            cells = new int[Math.max(rows * columns, 0)];
         }
 
         int get(int row, int column) {

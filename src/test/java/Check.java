@@ -34,6 +34,16 @@ final class Check {
         fails(what, IllegalStateException.class, call);
     }
 
+    static void answers(String what, Call call) {
+        Class<?> got = null;
+        try {
+            call.run();
+        } catch (RuntimeException thrown) {
+            got = thrown.getClass();
+        }
+        count(got == null, what + " threw " + got + ", due is an answer");
+    }
+
     /** Asks for the very class: the machine's own index exceptions are classes below it. */
     private static void fails(String what, Class<? extends RuntimeException> due, Call call) {
         Class<?> got = null;

@@ -29,6 +29,26 @@ final class Shops {
         }
     }
 
+    /** A table of a size with all times different from their neighbours, and none 0. */
+    static OpenShop patterned(int jobs, int machines) {
+        OpenShop shop = new OpenShop();
+        shop.setSize(jobs, machines);
+        for (int job = 0; job < jobs; job++) {
+            shop.setJob(job, 31 * job % 97 + 1, 19);
+        }
+        return shop;
+    }
+
+    /** The greatest time everywhere. */
+    static OpenShop fullest(int jobs, int machines) {
+        OpenShop shop = new OpenShop();
+        shop.setSize(jobs, machines);
+        for (int job = 0; job < jobs; job++) {
+            shop.setJob(job, 99, 0);
+        }
+        return shop;
+    }
+
     /** The table that the comments of the tests take apart by hand. */
     static OpenShop small() {
         return of(new int[][] {{3, 1}, {2, 4}});
