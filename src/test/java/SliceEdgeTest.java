@@ -64,7 +64,7 @@ public final class SliceEdgeTest {
         }
     }
 
-    /** "as long as it has entries above 0": full tables, and one with very many slices. */
+    /** "as long as it has entries above 0": a full table, and one with many slices, not by hand. */
     private static void asLongAsThereAreEntries() {
         OpenShop full = Shops.fullest(5, 5);
         Check.same("slices() of a full table", full.slices(), 5);
@@ -293,7 +293,10 @@ public final class SliceEdgeTest {
         Check.same("interruptions() for several slices", shop.interruptions(), 1);
     }
 
-    /** "how often": job 2's operation on machine 1 twice, and that on machine 0 once. */
+    /**
+     * "how often": job 2's operation on machine 1 twice, and that on machine 0 once: 0 3 1 2 4, then
+     * 1 3 0 4 2, then 2 0 1 3 4, then 2 3 0 4 1, then 2 3 1 0 4.
+     */
     private static void interruptedSeveralTimes() {
         OpenShop shop = Shops.of(new int[][] {{1, 1}, {1, 0}, {2, 3}});
         sameMachines("job 0", shop, 0, new int[] {0, 1, NONE, NONE, NONE});
